@@ -56,7 +56,6 @@ public final class BunchTimes {
     private final Race[] kept;
     private final Standings standings;
     private final Tape tape;
-    private final Teller teller;
 
     public BunchTimes() {
         race = new Race();
@@ -64,7 +63,6 @@ public final class BunchTimes {
         kept = new Race[SLOTS];
         standings = new Standings();
         tape = new Tape();
-        teller = new Teller(race, tape);
     }
 
     // ---- what is told
@@ -91,13 +89,14 @@ public final class BunchTimes {
 
     public int tell() {
         ahead.copyFrom(race);
-        teller.begin();
+        tape.begin();
         int statements = 0;
-        for (; statements < TAPE_BYTES && teller.hasMore(); statements++) {
-            teller.tellStatement();
+        for (; statements < TAPE_BYTES && tape.hasMore(); statements++) {
+            int word = tape.start;
+            tape.endStatement(word, Teller.tellStatement(race, tape));
         }
         tape.length = 0;
-        if (teller.fault == 0) {
+        if (tape.fault == 0) {
             return statements;
         }
         race.copyFrom(ahead);
@@ -105,7 +104,7 @@ public final class BunchTimes {
     }
 
     public int fault() {
-        return teller.fault;
+        return tape.fault;
     }
 
     public int team() {
@@ -782,21 +781,18 @@ public final class BunchTimes {
             }
         }
 
-        /** One without a FINISH lends no RAW, but his own MISHAP leads on to the one he was WITH. */
+        /**
+         * One without a FINISH lends no RAW, but his own MISHAP leads on to the one he was WITH.
+         * As many steps as there are RIDERS come to everybody before one is come to again.
+         */
         private int leastRaw(int rider, int zone) {
             int least = raw[rider];
             int at = rider;
-            int seen = 1 << rider;
-            for (int step = 0; step < RIDERS && fallCounts(at, zone); step++) {
-                int next = fallWith[at];
-                if (next == NONE || (seen >> next & 1) != 0) {
-                    break;
+            for (int step = 0; step < RIDERS && at != NONE && fallCounts(at, zone); step++) {
+                at = fallWith[at];
+                if (at != NONE && finish[at] != 0) {
+                    least = Math.min(least, raw[at]);
                 }
-                if (finish[next] != 0) {
-                    least = Math.min(least, raw[next]);
-                }
-                seen |= 1 << next;
-                at = next;
             }
             return least;
         }
@@ -1072,7 +1068,6 @@ public final class BunchTimes {
         }
 
         private void rankTeams(Race race) {
-            size = 0;
             for (int t = 0; t < race.teams; t++) {
                 if (race.isRanked(t)) {
                     sums[t] = race.teamSum(t);
@@ -1186,24 +1181,11 @@ public final class BunchTimes {
         }
     }
 
-    /** The bytes that are fed. */
-    private static final class Tape {
-        private final byte[] bytes = new byte[TAPE_BYTES];
-        private int length;
-
-        private void putFour(int number) {
-            for (int shift = 24; shift >= 0 && length < TAPE_BYTES; shift -= 8) {
-                bytes[length] = (byte) (number >> shift);
-                length++;
-            }
-        }
-    }
-
     /**
-     * Tells a TEXT to a race. After a FAULT nothing is taken any more and what was done meanwhile
-     * means nothing, for all goes back to what it was ahead of the TEXT.
+     * The bytes that are fed, taken TOKEN by TOKEN once they are told. After a FAULT nothing is
+     * taken any more: each take answers as if it had failed.
      */
-    private static final class Teller {
+    private static final class Tape {
         private static final int END = 0;
         private static final int WORD = 1;
         private static final int INT = 2;
@@ -1217,17 +1199,18 @@ public final class BunchTimes {
         private static final int PLACE_SCALE = 8;
         private static final int MOST_DIGITS = 6;
 
-        private final Race race;
-        private final Tape tape;
+        private final byte[] bytes = new byte[TAPE_BYTES];
+        private int length;
         private int token;
         private int start;
         private int next;
         private int fault;
-        private boolean refused;
 
-        private Teller(Race race, Tape tape) {
-            this.race = race;
-            this.tape = tape;
+        private void putFour(int number) {
+            for (int shift = 24; shift >= 0 && length < TAPE_BYTES; shift -= 8) {
+                bytes[length] = (byte) (number >> shift);
+                length++;
+            }
         }
 
         private void begin() {
@@ -1240,131 +1223,8 @@ public final class BunchTimes {
             return fault == 0 && token != END;
         }
 
-        private void tellStatement() {
-            int word = start;
-            refused = false;
-            if (takes("team")) {
-                must(race.addTeam() != NONE);
-            } else if (takes("rider")) {
-                tellRider();
-            } else if (takes("stage")) {
-                tellStage();
-            } else if (takes("come")) {
-                tellFinishes();
-            } else if (takes("over")) {
-                tellCrossings();
-            } else if (takes("fall")) {
-                tellFall();
-            } else if (takes("jury")) {
-                tellJury();
-            } else if (takes("grace")) {
-                must(race.addGrace(takeRider()));
-            } else if (takes("quit")) {
-                must(race.dropRider(takeRider()));
-            } else if (takes("gap")) {
-                must(race.setGap(takeInt(1, MOST_GAP)));
-            } else if (takes("zone")) {
-                must(race.setZone(takeInt(0, MOST_ZONE)));
-            } else if (takes("close")) {
-                must(race.closeStage() != NONE);
-            } else {
-                fail(CANNOT_STAND);
-            }
-            endStatement(word);
-        }
-
-        private void endStatement(int word) {
-            if (token != SEMICOLON) {
-                fail(CANNOT_STAND);
-            }
-            if (fault != 0) {
-                return;
-            }
-            if (refused) {
-                fault = CANNOT_BE_DONE + PLACE_SCALE * word;
-            }
-            advance();
-        }
-
-        private void tellRider() {
-            int team = takeInt(0, race.teams - 1);
-            int age = takeInt(LEAST_AGE, MOST_AGE);
-            must(race.addRider(team, age) != NONE);
-        }
-
-        private void tellStage() {
-            int kind = takeKind();
-            int length = takeInt(1, MOST_LENGTH);
-            must(race.openStage(kind, length) != NONE);
-            int least = 1;
-            for (int n = 0; n < TAPE_BYTES && takes("at"); n++) {
-                int km = takeInt(least, length - 1);
-                int how = takeHow();
-                must(race.addMark(km, how) != NONE);
-                least = km + 1;
-            }
-        }
-
-        private int takeKind() {
-            if (takes("flat")) {
-                return FLAT;
-            }
-            if (takes("hills")) {
-                return HILLS;
-            }
-            if (takes("peaks")) {
-                return PEAKS;
-            }
-            return takes("trial") ? TRIAL : fail(CANNOT_STAND);
-        }
-
-        private int takeHow() {
-            if (takes("sprint")) {
-                return SPRINT;
-            }
-            return takes("climb") ? takeInt(1, MOST_CLASS) : fail(CANNOT_STAND);
-        }
-
-        private void tellFinishes() {
-            for (int n = 0; n < TAPE_BYTES && fault == 0 && token == INT; n++) {
-                int rider = takeRider();
-                int tenths = takeInt(1, MOST_FINISH);
-                must(race.addFinish(rider, tenths));
-            }
-        }
-
-        private void tellCrossings() {
-            int mark = takeInt(0, race.latestMarks() - 1);
-            for (int n = 0; n < TAPE_BYTES && fault == 0 && token == INT; n++) {
-                must(race.addCrossing(mark, takeRider()) != NONE);
-            }
-        }
-
-        private void tellFall() {
-            int rider = takeRider();
-            int km = takeInt(0, race.latestLength());
-            int with = takes("with") ? takeRider() : NONE;
-            must(race.addFall(rider, km, with));
-        }
-
-        private void tellJury() {
-            int rider = takeRider();
-            int seconds = takeInt(1, MOST_JURY);
-            must(race.addJury(rider, seconds) != NONE);
-        }
-
-        /** Told only behind the ; of the STATEMENT: a FAULT that is found till then is another one. */
-        private void must(boolean done) {
-            if (!done) {
-                refused = true;
-            }
-        }
-
-        private int fail(int kind) {
-            if (fault == 0) {
-                fault = kind + PLACE_SCALE * start;
-            }
-            return NONE;
+        private boolean hasInt() {
+            return fault == 0 && token == INT;
         }
 
         private boolean takes(String word) {
@@ -1372,7 +1232,7 @@ public final class BunchTimes {
                 return false;
             }
             for (int i = 0; i < word.length(); i++) {
-                if (tape.bytes[start + i] != word.charAt(i)) {
+                if (bytes[start + i] != word.charAt(i)) {
                     return false;
                 }
             }
@@ -1380,27 +1240,42 @@ public final class BunchTimes {
             return true;
         }
 
-        private int takeRider() {
-            return takeInt(0, race.riders - 1);
-        }
-
         private int takeInt(int least, int most) {
             if (fault != 0 || token != INT) {
-                return fail(CANNOT_STAND);
+                return cannotStand();
             }
             int value = 0;
             for (int i = start; i < next; i++) {
-                value = value * 10 + (tape.bytes[i] - '0');
+                value = value * 10 + (bytes[i] - '0');
             }
             if (!within(value, least, most)) {
-                return fail(OUT_OF_BOUNDS);
+                fault = OUT_OF_BOUNDS + PLACE_SCALE * start;
+                return NONE;
             }
             advance();
             return value;
         }
 
+        /** What could not be done is a FAULT only now that the STATEMENT stands whole. */
+        private void endStatement(int word, boolean done) {
+            if (fault != 0 || token != SEMICOLON) {
+                cannotStand();
+            } else if (!done) {
+                fault = CANNOT_BE_DONE + PLACE_SCALE * word;
+            } else {
+                advance();
+            }
+        }
+
+        private int cannotStand() {
+            if (fault == 0) {
+                fault = CANNOT_STAND + PLACE_SCALE * start;
+            }
+            return NONE;
+        }
+
         private void advance() {
-            while (next < tape.length && kindAt(next) == BLANK) {
+            while (next < length && kindAt(next) == BLANK) {
                 next++;
             }
             start = next;
@@ -1408,7 +1283,7 @@ public final class BunchTimes {
             if (token == SEMICOLON) {
                 next++;
             } else if (token == WORD || token == INT) {
-                while (next < tape.length && kindAt(next) == token) {
+                while (next < length && kindAt(next) == token) {
                     next++;
                 }
             }
@@ -1419,10 +1294,10 @@ public final class BunchTimes {
 
         /** The kind of TOKEN that a byte is of. */
         private int kindAt(int i) {
-            if (i >= tape.length) {
+            if (i >= length) {
                 return END;
             }
-            byte b = tape.bytes[i];
+            byte b = bytes[i];
             if (b == 32 || b == 10) {
                 return BLANK;
             }
@@ -1433,6 +1308,130 @@ public final class BunchTimes {
                 return INT;
             }
             return b == ';' ? SEMICOLON : WRONG;
+        }
+    }
+
+    /**
+     * Tells the STATEMENTS of a tape to a race, each with the answer whether all of it was done.
+     * What is done in spite of a FAULT means nothing, for all goes back to what it was.
+     */
+    private static final class Teller {
+
+        private static boolean tellStatement(Race race, Tape tape) {
+            if (tape.takes("team")) {
+                return race.addTeam() != NONE;
+            }
+            if (tape.takes("rider")) {
+                return tellRider(race, tape);
+            }
+            if (tape.takes("stage")) {
+                return tellStage(race, tape);
+            }
+            if (tape.takes("come")) {
+                return tellFinishes(race, tape);
+            }
+            if (tape.takes("over")) {
+                return tellCrossings(race, tape);
+            }
+            if (tape.takes("fall")) {
+                return tellFall(race, tape);
+            }
+            if (tape.takes("jury")) {
+                return tellJury(race, tape);
+            }
+            if (tape.takes("grace")) {
+                return race.addGrace(takeRider(race, tape));
+            }
+            if (tape.takes("quit")) {
+                return race.dropRider(takeRider(race, tape));
+            }
+            if (tape.takes("gap")) {
+                return race.setGap(tape.takeInt(1, MOST_GAP));
+            }
+            if (tape.takes("zone")) {
+                return race.setZone(tape.takeInt(0, MOST_ZONE));
+            }
+            if (tape.takes("close")) {
+                return race.closeStage() != NONE;
+            }
+            tape.cannotStand();
+            return false;
+        }
+
+        private static boolean tellRider(Race race, Tape tape) {
+            int team = tape.takeInt(0, race.teams - 1);
+            int age = tape.takeInt(LEAST_AGE, MOST_AGE);
+            return race.addRider(team, age) != NONE;
+        }
+
+        private static boolean tellStage(Race race, Tape tape) {
+            int kind = takeKind(tape);
+            int length = tape.takeInt(1, MOST_LENGTH);
+            boolean done = race.openStage(kind, length) != NONE;
+            int leastKm = 1;
+            for (int n = 0; n < TAPE_BYTES && tape.takes("at"); n++) {
+                int km = tape.takeInt(leastKm, length - 1);
+                int how = takeHow(tape);
+                done &= race.addMark(km, how) != NONE;
+                leastKm = km + 1;
+            }
+            return done;
+        }
+
+        private static int takeKind(Tape tape) {
+            if (tape.takes("flat")) {
+                return FLAT;
+            }
+            if (tape.takes("hills")) {
+                return HILLS;
+            }
+            if (tape.takes("peaks")) {
+                return PEAKS;
+            }
+            return tape.takes("trial") ? TRIAL : tape.cannotStand();
+        }
+
+        private static int takeHow(Tape tape) {
+            if (tape.takes("sprint")) {
+                return SPRINT;
+            }
+            return tape.takes("climb") ? tape.takeInt(1, MOST_CLASS) : tape.cannotStand();
+        }
+
+        private static boolean tellFinishes(Race race, Tape tape) {
+            boolean done = true;
+            for (int n = 0; n < TAPE_BYTES && tape.hasInt(); n++) {
+                int rider = takeRider(race, tape);
+                int tenths = tape.takeInt(1, MOST_FINISH);
+                done &= race.addFinish(rider, tenths);
+            }
+            return done;
+        }
+
+        private static boolean tellCrossings(Race race, Tape tape) {
+            int mark = tape.takeInt(0, race.latestMarks() - 1);
+            boolean done = true;
+            for (int n = 0; n < TAPE_BYTES && tape.hasInt(); n++) {
+                done &= race.addCrossing(mark, takeRider(race, tape)) != NONE;
+            }
+            return done;
+        }
+
+        private static boolean tellFall(Race race, Tape tape) {
+            int rider = takeRider(race, tape);
+            int km = tape.takeInt(0, race.latestLength());
+            int with = tape.takes("with") ? takeRider(race, tape) : NONE;
+            return race.addFall(rider, km, with);
+        }
+
+        private static boolean tellJury(Race race, Tape tape) {
+            int rider = takeRider(race, tape);
+            int seconds = tape.takeInt(1, MOST_JURY);
+            return race.addJury(rider, seconds) != NONE;
+        }
+
+        private static int takeRider(Race race, Tape tape) {
+            return tape.takeInt(0, race.riders - 1);
         }
     }
 }
