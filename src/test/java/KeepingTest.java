@@ -124,41 +124,43 @@ final class KeepingTest {
         DUE.same("time", 500, x.result(0, 1, 2));
     }
 
-    private static final String RIDERS = "team;team;" + "rider 0 24;rider 1 30;".repeat(4);
-    private static final String ONE = "stage flat 100 at 10 sprint at 30 climb 1 at 50 climb 2 at 60 climb 3 at 70 climb 4 at 80 sprint;"
+    private static final String ONE = "team;team;" + "rider 0 24;rider 1 30;".repeat(4)
+        + "stage flat 100 at 10 sprint at 30 climb 1 at 50 climb 2 at 60 climb 3 at 70 climb 4 at 80 sprint;"
         + "come 0 100000 1 100500 2 101000 3 101500 4 102000 5 102500 6 103000 7 109000;"
-        + "over 0 7 6;over 1 5 4;over 2 3 2;over 3 1 0;over 4 7 0;over 5 6 2;fall 3 2 with 0;jury 2 8;grace 6;gap 20;close;";
-    private static final String OTHER = "stage trial 50 at 20 climb 4;"
-        + "come 7 50000 6 50005 5 52005 4 52000 2 52002 1 55000 0 99000;"
+        + "over 0 7 6;over 1 5 4;over 2 3 2;over 3 1 0;over 4 7 0;over 5 6 2;fall 3 2 with 0;jury 2 8;grace 0;gap 20;close;";
+    private static final String OTHER = "team;team;" + "rider 1 40;rider 0 20;".repeat(4) + "stage trial 60 at 20 climb 4;"
+        + "come 7 50000 6 50005 5 52005 4 52000 2 52002 1 98000 0 99000;"
         + "over 0 4;fall 6 2 with 5;jury 7 100;jury 6 50;grace 5;zone 0;close;rider 1 19;rider 0 18;";
     private static final String ONE_OPEN = "stage hills 80 at 1 climb 2 at 2 sprint at 40 climb 1 at 41 sprint;"
         + "come 0 90000;over 0 1;over 3 0 2 1;over 2 5 6;fall 4 1 with 0;jury 1 30;grace 5;";
-    private static final String OTHER_OPEN = "stage flat 8 at 3 sprint;come 4 9000 6 9001;over 0 6 4;fall 6 3 with 4;fall 4 3;jury 4 2;grace 6;";
+    private static final String OTHER_OPEN = "stage flat 8 at 3 sprint at 4 sprint at 5 climb 1 at 6 climb 2;come 4 9000 6 9001;"
+        + "over 0 6 4;over 3 4 6 5;over 2 4;fall 6 3 with 4;fall 4 3;jury 4 2;grace 6;";
     private static final String END = "come 1 90100 2 90200 4 90300 5 99999;close;";
 
     /** Whatever stood in the object before, going back makes it as one to which only the kept part was told. */
     private static void nothingOfTheOther() {
-        String one = answers(of(RIDERS, ONE, ONE_OPEN, END));
-        String other = answers(of(RIDERS, OTHER, OTHER_OPEN));
-        BunchTimes x = of(RIDERS);
+        String one = answers(of(ONE, ONE_OPEN, END));
+        String other = answers(of(OTHER, OTHER_OPEN, "close;"));
+        BunchTimes x = new BunchTimes();
         x.keep(0);
         tell(x, ONE, ONE_OPEN, END);
         x.back(0);
-        tell(x, OTHER, OTHER_OPEN);
+        tell(x, OTHER, OTHER_OPEN, "close;");
         same("the other behind the one", other, answers(x));
-        x = of(RIDERS);
+        x = new BunchTimes();
         x.keep(0);
         tell(x, ONE, ONE_OPEN);
         x.keep(1);
         x.back(0);
         tell(x, OTHER, OTHER_OPEN, "close;");
         x.back(1);
+        DUE.none("behind the last mark", x.mark(41, 0));
         tell(x, END);
         same("the one behind the other", one, answers(x));
         x.back(0);
         tell(x, OTHER);
         Due.text(x, "stage hills 30 at 2 sprint;come 4 8000 6 9000 5 9900;grace 4;jury 5 9;close;oops");
-        tell(x, OTHER_OPEN);
+        tell(x, OTHER_OPEN, "close;");
         same("behind a text that failed", other, answers(x));
         same("they differ", "1", one.equals(other) ? "0" : "1");
     }
