@@ -782,19 +782,21 @@ public final class BunchTimes {
         }
 
         /**
-         * One without a FINISH lends no RAW, but his own MISHAP leads on to the one he was WITH.
+         * The chain ends at one without a FINISH: he is not come to, so his own MISHAP leads nowhere.
          * As many steps as there are RIDERS come to everybody before one is come to again.
          */
         private int leastRaw(int rider, int zone) {
             int least = raw[rider];
             int at = rider;
-            for (int step = 0; step < RIDERS && at != NONE && fallCounts(at, zone); step++) {
+            for (int step = 0; step < RIDERS && fallCounts(at, zone) && hasFinish(fallWith[at]); step++) {
                 at = fallWith[at];
-                if (at != NONE && finish[at] != 0) {
-                    least = Math.min(least, raw[at]);
-                }
+                least = Math.min(least, raw[at]);
             }
             return least;
+        }
+
+        private boolean hasFinish(int rider) {
+            return within(rider, 0, RIDERS - 1) && finish[rider] != 0;
         }
 
         private boolean fallCounts(int rider, int zone) {

@@ -21,7 +21,7 @@ import java.util.stream.IntStream;
  * answer anew. ModelTest runs it beside the class.
  */
 final class Model {
-    private static final int NONE = -1;
+    static final int NONE = -1;
 
     private static final class Rider {
         int team;
@@ -89,11 +89,11 @@ final class Model {
         int time(int r) {
             Set<Integer> chain = new TreeSet<>();
             follow(r, chain);
-            return chain.stream().filter(finish::containsKey).mapToInt(this::raw).min().getAsInt();
+            return chain.stream().mapToInt(this::raw).min().getAsInt();
         }
 
         private void follow(int r, Set<Integer> chain) {
-            if (r == NONE || !chain.add(r)) {
+            if (!finish.containsKey(r) || !chain.add(r)) {
                 return;
             }
             int[] f = fall.get(r);

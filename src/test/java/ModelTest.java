@@ -6,6 +6,7 @@ import java.util.Random;
 /** Random runs of calls (always the same ones) on the class and on the model beside it. */
 final class ModelTest {
     private static final int RUNS = 400;
+    private static final int DENSE_RUNS = 100;
     private static final int CALLS = 512;
     private static final int[] EDGES = {Integer.MIN_VALUE, Integer.MAX_VALUE, -2, -1, 0, 1, 2, 5, 6, 7, 8, 15, 16, 17, 25, 50,
         51, 98, 99, 100, 300, 301, 3600, 3601, 99999, 100000, 999999, 1000000};
@@ -16,6 +17,8 @@ final class ModelTest {
     private final StringBuilder log = new StringBuilder();
     private int base;
     private int calls;
+    private int toldTexts;
+    private String wrongAnswer;
 
     private ModelTest(long seed) {
         random = new Random(seed);
@@ -25,9 +28,9 @@ final class ModelTest {
         int bad = 0;
         int closed = 0;
         int texts = 0;
-        for (int run = 0; run < RUNS && bad == 0; run++) {
+        for (int run = 0; run < RUNS + DENSE_RUNS && bad == 0; run++) {
             ModelTest t = new ModelTest(run);
-            String wrong = t.run();
+            String wrong = run < RUNS ? t.run() : t.denseRun();
             if (wrong != null) {
                 bad++;
                 System.out.println("run " + run + ":\n" + t.log + wrong);
@@ -35,13 +38,11 @@ final class ModelTest {
             closed += t.x.count(4);
             texts += t.toldTexts;
         }
-        System.out.println(RUNS + " runs, stages closed at their ends: " + closed + ", texts told whole: " + texts);
+        System.out.println(RUNS + " mixed and " + DENSE_RUNS + " dense runs, stages closed at their ends: " + closed + ", texts told whole: " + texts);
         if (bad != 0 || closed < RUNS || texts < RUNS) {
             System.exit(1);
         }
     }
-
-    private int toldTexts;
 
     private int below(int n) {
         return random.nextInt(n);
@@ -74,6 +75,123 @@ final class ModelTest {
             wrong = call();
         }
         return wrong;
+    }
+
+    /**
+     * Stages of many mishaps, crossings and riders who do not come in; then all that comes of them
+     * is asked. The calls that run() mixes in at random meet too few of such states.
+     */
+    private String denseRun() {
+        int riders = 6 + below(11);
+        tellField(riders);
+        for (int s = 0; s < 2; s++) {
+            tellDenseStage();
+            String wrong = s < m.count(4) ? askStage(s) : null;
+            if (wrong != null) {
+                return wrong;
+            }
+        }
+        String wrong = askStandings();
+        return wrong == null && calls > CALLS ? "an object is asked more than " + CALLS + " times" : wrong;
+    }
+
+    private void tellField(int riders) {
+        int teams = 1 + below(4);
+        for (int t = 0; t < teams; t++) {
+            both("team()", x.team(), m.team());
+        }
+        for (int r = 0; r < riders; r++) {
+            int t = below(teams);
+            int age = 20 + below(10);
+            both("rider(" + t + "," + age + ")", x.rider(t, age), m.rider(t, age));
+        }
+    }
+
+    private void tellDenseStage() {
+        base = 600 + below(3) * below(100000);
+        int riders = m.count(1);
+        int kind = below(3) == 0 ? below(4) : below(2);
+        int length = 7 + below(60);
+        int zone = below(6);
+        int gap = 1 + below(30);
+        both("zone " + zone, x.rule(1, zone), m.rule(1, zone));
+        both("gap " + gap, x.rule(0, gap), m.rule(0, gap));
+        both("stage(" + kind + "," + length + ")", x.stage(kind, length), m.stage(kind, length));
+        for (int k = 1; k <= 6; k++) {
+            int how = below(5);
+            both("mark(" + k + "," + how + ")", x.mark(k, how), m.mark(k, how));
+        }
+        int near = below(3) == 0 ? 2000 : 150;
+        for (int r = 0; r < riders; r++) {
+            int with = below(riders);
+            int km = below(6);
+            both("fall(" + r + "," + km + "," + with + ")", x.fall(r, km, with), m.fall(r, km, with));
+            int tenths = base + below(near) + (below(6) == 0 ? base / 4 : 0);
+            if (below(4) != 0) {
+                both("finish(" + r + "," + tenths + ")", x.finish(r, tenths), m.finish(r, tenths));
+            }
+            int mark = below(6);
+            int over = below(riders);
+            both("over(" + mark + "," + over + ")", x.over(mark, over), m.over(mark, over));
+        }
+        for (int n = 0; n < 4; n++) {
+            int r = below(riders);
+            int seconds = 1 + below(20);
+            both("jury(" + r + "," + seconds + ")", x.jury(r, seconds), m.jury(r, seconds));
+            int g = below(riders);
+            both("grace(" + g + ")", x.grace(g), m.grace(g));
+        }
+        int out = below(riders);
+        both("quit(" + out + ")", x.quit(out), m.quit(out));
+        both("close()", x.close(), m.close());
+    }
+
+    /** Keeps the first answer that differs; what is asked later tells it. */
+    private void both(String call, int got, int want) {
+        calls++;
+        String wrong = same(call, got, want);
+        wrongAnswer = wrongAnswer == null ? wrong : wrongAnswer;
+    }
+
+    private void both(String call, boolean got, boolean want) {
+        both(call, got ? 1 : 0, want ? 1 : 0);
+    }
+
+    private String askStage(int s) {
+        for (int what = 2; what <= 10; what++) {
+            both("told(" + s + "," + what + ")", x.told(s, what), m.told(s, what));
+        }
+        for (int r = 0; r < m.count(1); r++) {
+            for (int what : new int[] {2, 5, 6, 7}) {
+                both("result(" + s + "," + r + "," + what + ")", x.result(s, r, what), m.result(s, r, what));
+            }
+        }
+        return wrongAnswer;
+    }
+
+    private String askStandings() {
+        for (int l = 0; l < 5; l++) {
+            for (int i = 0; i == 0 || m.list(l, i - 1) != Model.NONE; i++) {
+                both("list(" + l + "," + i + ")", x.list(l, i), m.list(l, i));
+            }
+        }
+        for (int r = 0; r < m.count(1); r++) {
+            both("total(" + r + ")", x.total(r, false), m.total(r, false));
+            both("needs(" + r + ")", x.needs(r), m.needs(r));
+            for (int what = 5; what <= 6; what++) {
+                both("of(" + r + "," + what + ")", x.of(r, what), m.of(r, what));
+            }
+        }
+        for (int t = 0; t < m.count(0); t++) {
+            both("total(" + t + ", team)", x.total(t, true), m.total(t, true));
+        }
+        for (int j = 0; j < 4; j++) {
+            both("jersey(" + j + ")", x.jersey(j, false), m.jersey(j, false));
+        }
+        for (int s = 0; s < 2; s++) {
+            both("without(" + s + ")", x.without(s), m.without(s));
+        }
+        return wrongAnswer;
     }
 
     private String same(String call, long got, long want) {

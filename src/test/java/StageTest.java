@@ -81,9 +81,9 @@ final class StageTest {
         DUE.same("a ring: the least of all", 10010, x.result(0, 0, 2));
         DUE.same("a ring", 10010, x.result(0, 1, 2));
         DUE.same("a ring", 10010, x.result(0, 2, 2));
-        DUE.same("on by one without a finish", 10000, x.result(0, 4, 2));
-        DUE.same("helped", 3, x.told(0, 9));
-        DUE.same("by so much", 20 + 10 + 60, x.told(0, 10));
+        DUE.same("not on by one without a finish", 10060, x.result(0, 4, 2));
+        DUE.same("helped", 2, x.told(0, 9));
+        DUE.same("by so much", 20 + 10, x.told(0, 10));
         DUE.none("no finish", x.result(0, 3, 2));
 
         x = TellingTest.with(4);
@@ -93,6 +93,27 @@ final class StageTest {
         x.fall(1, 4, 2);
         x.close();
         DUE.same("it ends where a mishap does not count", 10020, x.result(0, 0, 2));
+
+        x = TellingTest.with(4);
+        x.stage(0, 100);
+        x.fall(0, 0, 1);
+        x.fall(1, 0, 2);
+        x.fall(2, 0, 3);
+        x.finish(0, 100300);
+        x.finish(1, 100200);
+        x.finish(3, 100000);
+        x.close();
+        DUE.same("it keeps what it had ahead of one without a finish", 10020, x.result(0, 0, 2));
+        DUE.same("next to one without a finish", 10020, x.result(0, 1, 2));
+
+        x = TellingTest.with(3);
+        x.stage(0, 100);
+        come(x, 100300, 100200, 100000);
+        x.fall(0, 0, 1);
+        x.fall(1, 0, 2);
+        x.quit(1);
+        x.close();
+        DUE.same("not on by one that quit", 10030, x.result(0, 0, 2));
 
         x = TellingTest.with(2);
         x.stage(0, 100);
