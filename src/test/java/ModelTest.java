@@ -78,7 +78,7 @@ final class ModelTest {
     }
 
     /**
-     * Stages of many mishaps, crossings and riders who do not come in; then all that comes of them
+     * Stages of many mishaps, crossings and riders who do not come in; then most that comes of them
      * is asked. The calls that run() mixes in at random meet too few of such states.
      */
     private String denseRun() {
