@@ -1,18 +1,56 @@
 import java.nio.charset.StandardCharsets;
 import java.util.Arrays;
 import java.util.NoSuchElementException;
+import java.util.function.Predicate;
+import java.util.function.Supplier;
+import java.util.function.ToIntFunction;
 
 /** Counts the answers that are not as due, for one test. */
 final class Due {
     private int asked;
     private int wrong;
+    private int sentences;
+    private String sentence = "";
+
+    /** A test of its own for one sentence of the document: what it finds wrong is told under those words. */
+    void sentence(String words, Runnable test) {
+        int before = asked;
+        sentence = "[" + words + "] ";
+        test.run();
+        yes("asks something", asked > before);
+        sentence = "";
+        sentences++;
+    }
 
     void same(String what, long want, long got) {
         asked++;
         if (want != got) {
             wrong++;
-            System.out.println(what + " answered " + got + ", due is " + want);
+            System.out.println(sentence + what + " answered " + got + ", due is " + want);
         }
+    }
+
+    void sameText(String what, String want, String got) {
+        asked++;
+        if (!want.equals(got)) {
+            wrong++;
+            System.out.println(sentence + what + " answered\n" + got + "\ndue is\n" + want);
+        }
+    }
+
+    /** That a call is refused, and that all behind it is as on an object on which it was not made. */
+    void refused(String what, int want, Supplier<BunchTimes> ready, ToIntFunction<BunchTimes> call) {
+        BunchTimes x = ready.get();
+        same(what, want, call.applyAsInt(x));
+        sameText(what + ": behind it all", Answers.revealed(ready.get()), Answers.revealed(x));
+    }
+
+    void refused(String what, Supplier<BunchTimes> ready, Predicate<BunchTimes> call) {
+        refused(what, 0, ready, x -> call.test(x) ? 1 : 0);
+    }
+
+    void refusedNone(String what, Supplier<BunchTimes> ready, ToIntFunction<BunchTimes> call) {
+        refused(what, BunchTimes.NONE, ready, call);
     }
 
     void yes(String what, boolean got) {
@@ -68,7 +106,8 @@ final class Due {
     }
 
     void close() {
-        System.out.println(wrong == 0 ? asked + " answers are as due" : wrong + " of " + asked + " answers are not as due");
+        String of = sentences == 0 ? "" : " in the tests of " + sentences + " sentences";
+        System.out.println((wrong == 0 ? asked + " answers are as due" : wrong + " of " + asked + " answers are not as due") + of);
         if (wrong != 0) {
             System.exit(1);
         }

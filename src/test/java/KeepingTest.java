@@ -12,7 +12,7 @@ final class KeepingTest {
     }
 
     private static void slots() {
-        BunchTimes x = TellingTest.with(1);
+        BunchTimes x = Races.with(1);
         DUE.no("slot -1", x.keep(-1));
         DUE.no("slot 2", x.keep(2));
         DUE.no("back -1", x.back(-1));
@@ -35,7 +35,7 @@ final class KeepingTest {
     }
 
     private static void allIsKept() {
-        BunchTimes x = TellingTest.with(3);
+        BunchTimes x = Races.with(3);
         x.stage(0, 100);
         x.mark(50, 0);
         x.over(0, 2);
@@ -82,7 +82,7 @@ final class KeepingTest {
     }
 
     private static void butTheTape() {
-        BunchTimes x = TellingTest.with(1);
+        BunchTimes x = Races.with(1);
         x.feed(1, 1, 1, 1, 1);
         x.keep(0);
         x.feed(1, 1, 1, 1, 1);
@@ -100,7 +100,7 @@ final class KeepingTest {
     }
 
     private static void openStages() {
-        BunchTimes x = TellingTest.with(2);
+        BunchTimes x = Races.with(2);
         x.stage(0, 100);
         x.mark(9, 0);
         x.over(0, 1);
@@ -139,14 +139,14 @@ final class KeepingTest {
 
     /** Whatever stood in the object before, going back makes it as one to which only the kept part was told. */
     private static void nothingOfTheOther() {
-        String one = answers(of(ONE, ONE_OPEN, END));
-        String other = answers(of(OTHER, OTHER_OPEN, "close;"));
+        String one = Answers.asked(of(ONE, ONE_OPEN, END));
+        String other = Answers.asked(of(OTHER, OTHER_OPEN, "close;"));
         BunchTimes x = new BunchTimes();
         x.keep(0);
         tell(x, ONE, ONE_OPEN, END);
         x.back(0);
         tell(x, OTHER, OTHER_OPEN, "close;");
-        same("the other behind the one", other, answers(x));
+        DUE.sameText("the other behind the one", other, Answers.asked(x));
         x = new BunchTimes();
         x.keep(0);
         tell(x, ONE, ONE_OPEN);
@@ -156,13 +156,13 @@ final class KeepingTest {
         x.back(1);
         DUE.none("behind the last mark", x.mark(41, 0));
         tell(x, END);
-        same("the one behind the other", one, answers(x));
+        DUE.sameText("the one behind the other", one, Answers.asked(x));
         x.back(0);
         tell(x, OTHER);
         Due.text(x, "stage hills 30 at 2 sprint;come 4 8000 6 9000 5 9900;grace 4;jury 5 9;close;oops");
         tell(x, OTHER_OPEN, "close;");
-        same("behind a text that failed", other, answers(x));
-        same("they differ", "1", one.equals(other) ? "0" : "1");
+        DUE.sameText("behind a text that failed", other, Answers.asked(x));
+        DUE.sameText("they differ", "1", one.equals(other) ? "0" : "1");
     }
 
     private static BunchTimes of(String... texts) {
@@ -177,42 +177,4 @@ final class KeepingTest {
         }
     }
 
-    private static void same(String what, String want, String got) {
-        DUE.yes(what + ":\n" + got + "\nwant\n" + want, want.equals(got));
-    }
-
-    /** What every call that only asks answers, a line each kind. */
-    private static String answers(BunchTimes x) {
-        StringBuilder all = new StringBuilder();
-        for (int what = 0; what < 9; what++) {
-            all.append(x.count(what)).append(' ');
-        }
-        for (int r = 0; r < x.count(1); r++) {
-            all.append("\nrider ").append(r).append(": ");
-            for (int what = 0; what < 7; what++) {
-                all.append(x.of(r, what)).append(' ');
-            }
-            all.append(x.total(r, false)).append(' ').append(x.needs(r));
-        }
-        for (int s = 0; s < x.count(4); s++) {
-            all.append("\nstage ").append(s).append(": ");
-            for (int what = 0; what < 11; what++) {
-                all.append(x.told(s, what)).append(' ');
-            }
-            all.append(x.together(s)).append(' ').append(x.escaped(s)).append(' ').append(x.without(s));
-            for (int r = 0; r < x.count(1); r++) {
-                all.append("\n ").append(x.order(s, r)).append(':');
-                for (int what = 0; what < 8; what++) {
-                    all.append(' ').append(x.result(s, r, what));
-                }
-            }
-        }
-        for (int l = 0; l < 5; l++) {
-            all.append("\nlist ").append(l).append(": ").append(x.jersey(l, false)).append(x.total(l, true));
-            for (int i = 0; i < x.count(1); i++) {
-                all.append(' ').append(x.list(l, i));
-            }
-        }
-        return all.toString();
-    }
 }

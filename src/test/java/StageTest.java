@@ -18,38 +18,23 @@ final class StageTest {
         DUE.close();
     }
 
-    /** A stage of which each finish is told, rider 0's first. */
-    private static BunchTimes closed(int kind, int length, int... tenths) {
-        BunchTimes x = TellingTest.with(tenths.length);
-        x.stage(kind, length);
-        come(x, tenths);
-        x.close();
-        return x;
-    }
-
-    private static void come(BunchTimes x, int... tenths) {
-        for (int r = 0; r < tenths.length; r++) {
-            x.finish(r, tenths[r]);
-        }
-    }
-
     private static void bunches() {
         // A bunch goes on while each gap is short, however far its last is from its first.
-        BunchTimes x = closed(0, 100, 100009, 100018, 100027, 100037, 100046);
+        BunchTimes x = Races.closed(0, 100, 100009, 100018, 100027, 100037, 100046);
         DUE.same("bunches", 2, x.told(0, 3));
         DUE.same("raw, rest dropped", 10000, x.result(0, 2, 1));
         DUE.same("raw of the next", 10003, x.result(0, 4, 1));
         DUE.same("bunch", 0, x.result(0, 2, 3));
         DUE.same("bunch", 1, x.result(0, 4, 3));
-        x = closed(3, 100, 100000, 100000, 100001);
+        x = Races.closed(3, 100, 100000, 100000, 100001);
         DUE.same("each in a trial", 3, x.told(0, 3));
         DUE.same("bunch in a trial", 2, x.result(0, 2, 3));
     }
 
     private static void times() {
-        BunchTimes x = TellingTest.with(4);
+        BunchTimes x = Races.with(4);
         x.stage(1, 100);
-        come(x, 100000, 100100, 100200, 100300);
+        Races.come(x, 100000, 100100, 100200, 100300);
         x.fall(1, 3, 0);
         x.fall(2, 4, 0);
         x.fall(0, 0, 3);
@@ -65,10 +50,10 @@ final class StageTest {
     }
 
     private static void chains() {
-        BunchTimes x = TellingTest.with(6);
+        BunchTimes x = Races.with(6);
         x.rule(1, 0);
         x.stage(0, 100);
-        come(x, 100300, 100200, 100100);
+        Races.come(x, 100300, 100200, 100100);
         x.fall(0, 0, 1);
         x.fall(1, 0, 2);
         x.fall(2, 0, 0);
@@ -86,15 +71,15 @@ final class StageTest {
         DUE.same("by so much", 20 + 10, x.told(0, 10));
         DUE.none("no finish", x.result(0, 3, 2));
 
-        x = TellingTest.with(4);
+        x = Races.with(4);
         x.stage(0, 100);
-        come(x, 100300, 100200, 100000);
+        Races.come(x, 100300, 100200, 100000);
         x.fall(0, 3, 1);
         x.fall(1, 4, 2);
         x.close();
         DUE.same("it ends where a mishap does not count", 10020, x.result(0, 0, 2));
 
-        x = TellingTest.with(4);
+        x = Races.with(4);
         x.stage(0, 100);
         x.fall(0, 0, 1);
         x.fall(1, 0, 2);
@@ -106,18 +91,18 @@ final class StageTest {
         DUE.same("it keeps what it had ahead of one without a finish", 10020, x.result(0, 0, 2));
         DUE.same("next to one without a finish", 10020, x.result(0, 1, 2));
 
-        x = TellingTest.with(3);
+        x = Races.with(3);
         x.stage(0, 100);
-        come(x, 100300, 100200, 100000);
+        Races.come(x, 100300, 100200, 100000);
         x.fall(0, 0, 1);
         x.fall(1, 0, 2);
         x.quit(1);
         x.close();
         DUE.same("not on by one that quit", 10030, x.result(0, 0, 2));
 
-        x = TellingTest.with(2);
+        x = Races.with(2);
         x.stage(0, 100);
-        come(x, 100300, 100000);
+        Races.come(x, 100300, 100000);
         x.fall(0, 3, -1);
         x.fall(1, 3, 0);
         x.close();
@@ -127,9 +112,9 @@ final class StageTest {
 
     private static void kindsWithoutMishaps() {
         for (int kind = 0; kind < 4; kind++) {
-            BunchTimes x = TellingTest.with(2);
+            BunchTimes x = Races.with(2);
             x.stage(kind, 100);
-            come(x, 100000, 100100);
+            Races.come(x, 100000, 100100);
             x.fall(1, 1, 0);
             x.close();
             DUE.same("kind " + kind, kind <= 1 ? 10000 : 10010, x.result(0, 1, 2));
@@ -140,7 +125,7 @@ final class StageTest {
         int[] per = {7, 10, 15, 30};
         for (int kind = 0; kind < 4; kind++) {
             // 100 km in 10000 s: 36 km an hour.
-            BunchTimes x = closed(kind, 100, 100000);
+            BunchTimes x = Races.closed(kind, 100, 100000);
             DUE.same("speed", 36, x.told(0, 5));
             DUE.same("limit of kind " + kind, 10000 + 100 * per[kind], x.told(0, 6));
             DUE.same("kind", kind, x.told(0, 0));
@@ -150,15 +135,15 @@ final class StageTest {
         // 39 km in 3600 s; 40 in 3600; 57, 58 and 60.
         int[][] speeds = {{38, 7}, {39, 7}, {40, 8}, {57, 16}, {58, 17}, {60, 17}, {300, 17}};
         for (int[] s : speeds) {
-            BunchTimes x = closed(0, s[0], 36009);
+            BunchTimes x = Races.closed(0, s[0], 36009);
             DUE.same("speed", s[0], x.told(0, 5));
             DUE.same("limit at " + s[0], 3600 + 36 * s[1], x.told(0, 6));
         }
-        BunchTimes x = closed(0, 300, 9);
+        BunchTimes x = Races.closed(0, 300, 9);
         DUE.same("best 0", 0, x.told(0, 4));
         DUE.same("speed by 1", 1080000, x.told(0, 5));
         DUE.same("limit 0", 0, x.told(0, 6));
-        x = closed(0, 1, 999);
+        x = Races.closed(0, 1, 999);
         DUE.same("rest dropped: 36", 36, x.told(0, 5));
         DUE.same("rest dropped: 99 and 6.93", 105, x.told(0, 6));
         for (int what : new int[] {-1, 11}) {
@@ -172,42 +157,42 @@ final class StageTest {
 
     private static void pardon() {
         // The limit of a flat stage of 10000 s at 36 km an hour is 10700 s.
-        BunchTimes x = TellingTest.with(6);
+        BunchTimes x = Races.with(6);
         x.stage(0, 100);
-        come(x, 100000, 100000, 100000, 100000, 107009, 107010);
+        Races.come(x, 100000, 100000, 100000, 100000, 107009, 107010);
         DUE.same("late is above the limit alone", 0, x.close());
         DUE.same("none: both are of one bunch", 0, x.told(0, 7));
 
-        x = TellingTest.with(5);
+        x = Races.with(5);
         x.stage(0, 100);
-        come(x, 100000, 100000, 100000, 107000, 107010);
+        Races.come(x, 100000, 100000, 100000, 107000, 107010);
         DUE.same("five times one are not more than five", 1, x.close());
         DUE.same("late", 1, x.told(0, 7));
         DUE.same("in at the limit", 1, x.of(3, 2));
         DUE.same("out above it", 0, x.of(4, 2));
 
-        x = TellingTest.with(4);
+        x = Races.with(4);
         x.stage(0, 100);
-        come(x, 100000, 100000, 100000, 107010);
+        Races.come(x, 100000, 100000, 100000, 107010);
         DUE.same("five times one are more than four", 0, x.close());
         DUE.same("pardoned", 1, x.told(0, 8));
         DUE.same("in", 1, x.of(3, 2));
         DUE.same("no points", 0, x.result(0, 3, 6));
 
-        x = TellingTest.with(5);
+        x = Races.with(5);
         x.stage(0, 100);
-        come(x, 100000, 100000, 100000, 107010, 108000);
+        Races.come(x, 100000, 100000, 100000, 107010, 108000);
         x.grace(4);
         DUE.same("by grace one is not late", 1, x.close());
-        DUE.same("a late rider 0", 1, closed(0, 100, 108000, 100000, 100000, 100000, 100000).told(0, 7));
+        DUE.same("a late rider 0", 1, Races.closed(0, 100, 108000, 100000, 100000, 100000, 100000).told(0, 7));
         DUE.same("late", 1, x.told(0, 7));
         DUE.same("in by grace", 1, x.of(4, 2));
         DUE.same("with points", 10, x.result(0, 4, 6));
         DUE.same("the other has none", 0, x.result(0, 3, 6));
 
-        x = TellingTest.with(5);
+        x = Races.with(5);
         x.stage(0, 100);
-        come(x, 100000, 100000, 100000, 100000, 108000);
+        Races.come(x, 100000, 100000, 100000, 100000, 108000);
         x.fall(4, 3, 0);
         DUE.same("by his time, not raw", 0, x.close());
         DUE.same("late", 0, x.told(0, 7));
@@ -217,7 +202,7 @@ final class StageTest {
         int[][] points = {{25, 20, 16, 13, 10, 0}, {15, 12, 9, 7, 5, 0}, {10, 8, 6, 4, 2, 0}, {10, 8, 6, 4, 2, 0}};
         int[] bonus = {10, 6, 4, 0, 0, 0};
         for (int kind = 0; kind < 4; kind++) {
-            BunchTimes x = closed(kind, 100, 100000, 100001, 100002, 100003, 100004, 100005);
+            BunchTimes x = Races.closed(kind, 100, 100000, 100001, 100002, 100003, 100004, 100005);
             for (int r = 0; r < 6; r++) {
                 DUE.same("points of " + r + " in kind " + kind, points[kind][r], x.result(0, r, 6));
                 DUE.same("bonus of " + r + " in kind " + kind, kind == 3 ? 0 : bonus[r], x.result(0, r, 5));
@@ -226,7 +211,7 @@ final class StageTest {
         int[][] over = {{10, 7, 4, 2, 0}, {10, 8, 6, 4, 0}, {5, 3, 2, 1, 0}, {2, 1, 0, 0, 0}, {1, 0, 0, 0, 0}};
         int[] sprint = {3, 2, 1, 0, 0};
         for (int how = 0; how <= 4; how++) {
-            BunchTimes x = TellingTest.with(12);
+            BunchTimes x = Races.with(12);
             x.stage(3, 100);
             x.mark(50, how);
             // Rider 11 is over it first, but does not come in; 6 to 10 are behind the first five of the order.
@@ -247,11 +232,11 @@ final class StageTest {
     }
 
     private static void lateKeepPlaces() {
-        BunchTimes x = TellingTest.with(5);
+        BunchTimes x = Races.with(5);
         x.stage(0, 100);
         x.mark(20, 0);
         x.mark(40, 1);
-        come(x, 100000, 100000, 100000, 100000, 108000);
+        Races.come(x, 100000, 100000, 100000, 100000, 108000);
         for (int m = 0; m < 2; m++) {
             x.over(m, 4);
             x.over(m, 3);
@@ -267,7 +252,7 @@ final class StageTest {
     }
 
     private static void orderAndResults() {
-        BunchTimes x = TellingTest.with(4);
+        BunchTimes x = Races.with(4);
         x.stage(0, 100);
         x.finish(3, 100000);
         x.finish(1, 100000);
@@ -297,7 +282,7 @@ final class StageTest {
     }
 
     private static void gaps() {
-        BunchTimes x = closed(0, 100, 100000, 100001, 100099, 100000);
+        BunchTimes x = Races.closed(0, 100, 100000, 100001, 100099, 100000);
         int[][] parted = {{1, 3}, {2, 2}, {98, 2}, {99, 1}};
         for (int[] p : parted) {
             DUE.same("parted " + p[0], p[1], x.parted(0, p[0]));
@@ -308,23 +293,23 @@ final class StageTest {
         DUE.none("stage -1", x.parted(-1, 10));
         DUE.same("together", 99, x.together(0));
         DUE.none("stage 1", x.together(1));
-        DUE.none("by 100 it would be", closed(0, 100, 100000, 100099).together(0));
-        DUE.same("all alike", 1, closed(1, 100, 100000, 100000).together(0));
-        DUE.same("one alone", 1, closed(0, 100, 100000).together(0));
-        DUE.same("one alone in a trial", 1, closed(3, 100, 100000).together(0));
-        DUE.none("a trial of two", closed(3, 100, 100000, 100000).together(0));
-        DUE.same("a trial parted", 2, closed(3, 100, 100000, 100000).parted(0, 99));
+        DUE.none("by 100 it would be", Races.closed(0, 100, 100000, 100099).together(0));
+        DUE.same("all alike", 1, Races.closed(1, 100, 100000, 100000).together(0));
+        DUE.same("one alone", 1, Races.closed(0, 100, 100000).together(0));
+        DUE.same("one alone in a trial", 1, Races.closed(3, 100, 100000).together(0));
+        DUE.none("a trial of two", Races.closed(3, 100, 100000, 100000).together(0));
+        DUE.same("a trial parted", 2, Races.closed(3, 100, 100000, 100000).parted(0, 99));
     }
 
     private static void escapes() {
-        DUE.same("the widest", 1, closed(0, 100, 100000, 100500, 100501).escaped(0));
-        DUE.same("the widest is the last", 2, closed(0, 100, 100000, 100500, 101001).escaped(0));
-        DUE.same("the first of like ones", 1, closed(0, 100, 100000, 100500, 101000).escaped(0));
-        DUE.same("all alike", 1, closed(0, 100, 100000, 100000, 100000).escaped(0));
-        DUE.same("in a trial", 2, closed(3, 100, 100000, 100001, 100003).escaped(0));
-        DUE.none("one alone", closed(0, 100, 100000).escaped(0));
-        DUE.none("stage 1", closed(0, 100, 100000, 100001).escaped(1));
-        DUE.none("stage -1", closed(0, 100, 100000, 100001).escaped(-1));
+        DUE.same("the widest", 1, Races.closed(0, 100, 100000, 100500, 100501).escaped(0));
+        DUE.same("the widest is the last", 2, Races.closed(0, 100, 100000, 100500, 101001).escaped(0));
+        DUE.same("the first of like ones", 1, Races.closed(0, 100, 100000, 100500, 101000).escaped(0));
+        DUE.same("all alike", 1, Races.closed(0, 100, 100000, 100000, 100000).escaped(0));
+        DUE.same("in a trial", 2, Races.closed(3, 100, 100000, 100001, 100003).escaped(0));
+        DUE.none("one alone", Races.closed(0, 100, 100000).escaped(0));
+        DUE.none("stage 1", Races.closed(0, 100, 100000, 100001).escaped(1));
+        DUE.none("stage -1", Races.closed(0, 100, 100000, 100001).escaped(-1));
     }
 
     private static void ofRiders() {
@@ -340,7 +325,7 @@ final class StageTest {
             x.over(0, 0);
             x.over(1, 0);
             x.jury(0, 9);
-            come(x, 100000, 100500);
+            Races.come(x, 100000, 100500);
             DUE.same("before it is closed", s * 35, x.of(0, 3));
             DUE.same("before it is closed", s * 9, x.of(0, 6));
             x.close();

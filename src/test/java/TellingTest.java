@@ -20,15 +20,6 @@ final class TellingTest {
         DUE.close();
     }
 
-    static BunchTimes with(int riders) {
-        BunchTimes x = new BunchTimes();
-        x.team();
-        for (int r = 0; r < riders; r++) {
-            x.rider(0, 30);
-        }
-        return x;
-    }
-
     private static void aNewObject() {
         BunchTimes x = new BunchTimes();
         int[] first = {0, 0, 0, 0, 0, 0, 0, 10, 3, 0};
@@ -81,7 +72,7 @@ final class TellingTest {
     }
 
     private static void stages() {
-        BunchTimes x = with(2);
+        BunchTimes x = Races.with(2);
         DUE.none("kind -1", x.stage(-1, 100));
         DUE.none("kind 4", x.stage(4, 100));
         DUE.none("length 0", x.stage(0, 0));
@@ -94,7 +85,7 @@ final class TellingTest {
             x.close();
         }
         DUE.none("the ninth", x.stage(0, 100));
-        x = with(1);
+        x = Races.with(1);
         x.stage(0, 100);
         x.quit(0);
         DUE.none("it can't be closed", x.close());
@@ -102,7 +93,7 @@ final class TellingTest {
     }
 
     private static void marks() {
-        BunchTimes x = with(1);
+        BunchTimes x = Races.with(1);
         DUE.none("none is open", x.mark(1, 0));
         x.stage(0, 100);
         DUE.none("km 0", x.mark(0, 0));
@@ -133,7 +124,7 @@ final class TellingTest {
     }
 
     private static void finishes() {
-        BunchTimes x = with(3);
+        BunchTimes x = Races.with(3);
         DUE.no("none is open", x.finish(0, 100));
         x.stage(0, 100);
         DUE.no("0 tenths", x.finish(0, 0));
@@ -152,7 +143,7 @@ final class TellingTest {
     }
 
     private static void crossings() {
-        BunchTimes x = with(4);
+        BunchTimes x = Races.with(4);
         DUE.none("none is open", x.over(0, 0));
         x.stage(0, 100);
         DUE.none("no mark", x.over(0, 0));
@@ -178,7 +169,7 @@ final class TellingTest {
     }
 
     private static void falls() {
-        BunchTimes x = with(4);
+        BunchTimes x = Races.with(4);
         DUE.no("none is open", x.fall(0, 0, -1));
         x.stage(0, 100);
         DUE.no("km -1", x.fall(0, -1, -1));
@@ -198,7 +189,7 @@ final class TellingTest {
     }
 
     private static void jury() {
-        BunchTimes x = with(2);
+        BunchTimes x = Races.with(2);
         DUE.none("none is open", x.jury(0, 5));
         x.stage(0, 100);
         DUE.none("0 seconds", x.jury(0, 0));
@@ -223,7 +214,7 @@ final class TellingTest {
     }
 
     private static void grace() {
-        BunchTimes x = with(2);
+        BunchTimes x = Races.with(2);
         DUE.no("none is open", x.grace(0));
         x.stage(0, 100);
         DUE.no("rider 2", x.grace(2));
@@ -235,7 +226,7 @@ final class TellingTest {
     }
 
     private static void quits() {
-        BunchTimes x = with(3);
+        BunchTimes x = Races.with(3);
         DUE.no("none is open", x.quit(0));
         x.stage(0, 100);
         x.mark(10, 0);
@@ -266,7 +257,7 @@ final class TellingTest {
     }
 
     private static void rules() {
-        BunchTimes x = with(2);
+        BunchTimes x = Races.with(2);
         DUE.no("gap as it is", x.rule(0, 10));
         DUE.no("zone as it is", x.rule(1, 3));
         DUE.no("gap 0", x.rule(0, 0));
@@ -292,7 +283,7 @@ final class TellingTest {
     }
 
     private static void closing() {
-        BunchTimes x = with(4);
+        BunchTimes x = Races.with(4);
         DUE.none("none is open", x.close());
         x.stage(0, 100);
         DUE.none("no finish", x.close());
@@ -302,7 +293,7 @@ final class TellingTest {
         DUE.none("closed", x.close());
         DUE.same("in", 1, x.of(1, 2));
         DUE.same("out", 0, x.of(0, 2));
-        x = with(6);
+        x = Races.with(6);
         x.stage(0, 100);
         for (int r = 0; r < 5; r++) {
             x.finish(r, 100000);
@@ -315,7 +306,7 @@ final class TellingTest {
     }
 
     private static void counts() {
-        BunchTimes x = with(3);
+        BunchTimes x = Races.with(3);
         x.team();
         x.stage(0, 50);
         x.mark(5, 0);
