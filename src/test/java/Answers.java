@@ -38,6 +38,20 @@ final class Answers {
         return a.text();
     }
 
+    /** A part of what asked() asks: 0 counts and riders, 1 lists, 2 and on the stages; all together are too many calls. */
+    static String part(BunchTimes x, int part) {
+        Answers a = new Answers(x);
+        if (part == 0) {
+            a.askCounts();
+            a.askRiders();
+        } else if (part == 1) {
+            a.askLists();
+        } else {
+            a.askStage(part - 2);
+        }
+        return a.text();
+    }
+
     private String text() {
         if (calls > MOST_CALLS) {
             throw new AssertionError(calls + " calls are more than an object is promised for");
@@ -70,6 +84,10 @@ final class Answers {
         for (int s = 0; s < closed; s++) {
             askStage(s);
         }
+        askLists();
+    }
+
+    private void askLists() {
         int in = count(2);
         for (int l = 0; l < 5; l++) {
             line("list " + l + ", jersey, team:");

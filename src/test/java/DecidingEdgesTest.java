@@ -174,6 +174,45 @@ final class DecidingEdgesTest {
         x.close();
         DUE.same("rider 2 is the first: 6 and 3", 9, x.result(1, 2, 5));
         DUE.same("rider 1 the second: 10 and 2", 12, x.result(1, 1, 5));
+        quitsOverAll(0, 10, 7, 4, 2);
+        quitsOverAll(15, 10, 7, 4, 2);
+        quitsOverAll(7, 10, 7, 4, 2);
+    }
+
+    /** Sixteen come over six sprints, one mark the other way round; one quits, and the places close up behind him. */
+    private static void quitsOverAll(int who, int... points) {
+        BunchTimes x = Races.with(16);
+        x.stage(3, 100);
+        for (int m = 0; m < 6; m++) {
+            x.mark(m + 1, 0);
+            Races.more(x, m % 2 == 0 ? "over " + m + " 0 1 2 3 4 5 6 7 8 9 10 11 12 13 14 15;" : "over " + m + " 15 14 13 12 11 10 9 8 7 6 5 4 3 2 1 0;");
+        }
+        x.quit(who);
+        DUE.none("he is over none any more, nor can he be: " + who, x.over(0, who));
+        DUE.none("the others are over all: " + who, x.over(5, who == 0 ? 1 : 0));
+        for (int r = 0; r < 16; r++) {
+            x.finish(r, 100000 + (r + 8) % 16);
+        }
+        x.close();
+        int at = 0;
+        for (int r = 0; r < 16 && at < 3; r++) {
+            if (r != who) {
+                DUE.same("without " + who + ", points of " + r, 3 * points[at], x.result(0, r, 6) - ofTheOrder(x, r));
+                at++;
+            }
+        }
+        at = 0;
+        for (int r = 15; r >= 0 && at < 3; r--) {
+            if (r != who) {
+                DUE.same("without " + who + ", points of " + r, 3 * points[at], x.result(0, r, 6) - ofTheOrder(x, r));
+                at++;
+            }
+        }
+    }
+
+    private static int ofTheOrder(BunchTimes x, int rider) {
+        int place = x.result(0, rider, 4);
+        return place <= 5 ? 12 - 2 * place : 0;
     }
 
     private static void noJuryOfOneThatQuit() {

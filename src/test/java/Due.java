@@ -45,6 +45,14 @@ final class Due {
         sameText(what + ": behind it all", Answers.revealed(ready.get()), Answers.revealed(x));
     }
 
+    /** That two races answer alike, each part of it asked of objects made for that. */
+    void sameRace(String what, Supplier<BunchTimes> want, Supplier<BunchTimes> got) {
+        int parts = 2 + want.get().count(4);
+        for (int part = 0; part < parts; part++) {
+            sameText(what + ", part " + part, Answers.part(want.get(), part), Answers.part(got.get(), part));
+        }
+    }
+
     void refused(String what, Supplier<BunchTimes> ready, Predicate<BunchTimes> call) {
         refused(what, 0, ready, x -> call.test(x) ? 1 : 0);
     }

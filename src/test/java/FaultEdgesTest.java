@@ -87,6 +87,22 @@ final class FaultEdgesTest {
             fault(1, "|" + word + "s 0 20;");
             fault(1, "|" + shorter + (char) (word.charAt(word.length() - 1) - 1) + " 0 20;");
         }
+        wordsInside();
+    }
+
+    /** Each word, with each of its letters in turn another one. */
+    private static void wordsInside() {
+        String[][] parts = {{"", "team", ";"}, {"", "rider", " 0 20;"}, {"", "stage", " flat 9;"}, {"", "come", " 1 90000;"}, {"", "over", " 0 1;"},
+            {"", "fall", " 1 1;"}, {"", "jury", " 1 5;"}, {"", "grace", " 1;"}, {"", "quit", " 1;"}, {"", "gap", " 5;"}, {"", "zone", " 5;"},
+            {"", "close", ";"}, {"stage ", "flat", " 9;"}, {"stage ", "hills", " 9;"}, {"stage ", "peaks", " 9;"}, {"stage ", "trial", " 9;"},
+            {"stage flat 9 ", "at", " 1 sprint;"}, {"stage flat 9 at 1 ", "sprint", ";"}, {"stage flat 9 at 1 ", "climb", " 1;"},
+            {"fall 1 1 ", "with", " 2;"}};
+        for (String[] p : parts) {
+            DUE.yes(p[1] + " can stand there", Due.text(Races.open(), p[0] + p[1] + p[2]) % 8 != 1);
+            for (int i = 0; i < p[1].length(); i++) {
+                fault(1, p[0] + "|" + p[1].substring(0, i) + 'x' + p[1].substring(i + 1) + p[2]);
+            }
+        }
     }
 
     private static void ints() {
@@ -398,6 +414,8 @@ final class FaultEdgesTest {
     private static void undoneStage() {
         fault(3, "|stage flat 9;");
         fault(3, "|stage flat 9 at 1 sprint;");
+        // A MARK that the OPEN STAGE could have.
+        fault(3, "|stage flat 100 at 50 sprint;");
         fault(new BunchTimes(), 3, "|stage flat 9;");
         fault(new BunchTimes(), 3, "team; |stage flat 9;");
         String six = " at 1 sprint at 2 sprint at 3 sprint at 4 sprint at 5 sprint at 6 sprint";
@@ -516,5 +534,32 @@ final class FaultEdgesTest {
         DUE.same("those in", 3, x.count(2));
         told(x, 2, "gap 5;gap 6;");
         DUE.same("the latest", 6, x.count(7));
+        String[] kinds = {"flat", "hills", "peaks", "trial"};
+        for (int kind = 0; kind < 4; kind++) {
+            x = Races.with(1);
+            told(x, 3, "stage " + kinds[kind] + " 300;come 0 999999;close;");
+            DUE.same(kinds[kind], kind, x.told(0, 0));
+            DUE.same("length", 300, x.told(0, 1));
+            DUE.same("finish", 999999, x.result(0, 0, 0));
+        }
+        int[] dots = {10, 5, 2, 1};
+        for (int how = 1; how <= 4; how++) {
+            x = Races.with(1);
+            told(x, 4, "stage trial 9 at 1 climb " + how + ";over 0 0;come 0 9000;close;");
+            DUE.same("climb " + how, dots[how - 1], x.of(0, 4));
+        }
+        x = Races.with(3);
+        told(x, 7, "stage flat 100;come 0 100000 1 100100 2 108000;fall 1 3 with 0;jury 1 3600;jury 1 1;grace 2;close;");
+        DUE.same("fall with", 10000, x.result(0, 1, 2));
+        DUE.same("jury", 3601, x.of(1, 6));
+        DUE.same("grace", 0, x.told(0, 7));
+        told(x, 4, "stage flat 100;come 0 100000 1 100100 2 100200;fall 2 3;quit 0;");
+        told(x, 1, "close;");
+        DUE.same("fall with nobody", 10020, x.result(1, 2, 2));
+        DUE.same("quit", 0, x.of(0, 2));
+        told(x, 4, "rider 0 50;stage flat 100;come 1 100000 2 100100 3 100200;fall 3 9 with 1;");
+        told(x, 2, "zone 9;close;");
+        DUE.same("zone", 10000, x.result(2, 3, 2));
+        DUE.same("age", 50, x.of(3, 1));
     }
 }

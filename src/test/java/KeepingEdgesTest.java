@@ -1,3 +1,5 @@
+import java.util.function.Consumer;
+
 /** Promises 18 to 21 at their edges, sentence by sentence: keeping, going back, counting, of a rider. */
 final class KeepingEdgesTest {
     private static final Due DUE = new Due();
@@ -11,6 +13,8 @@ final class KeepingEdgesTest {
         DUE.sentence("18: but what is kept", KeepingEdgesTest::butWhatIsKept);
         DUE.sentence("18: false: no such slot.", KeepingEdgesTest::noSlotToKeep);
         DUE.sentence("19: All is as was kept: true.", KeepingEdgesTest::asWasKept);
+        DUE.sentence("19: All is as was kept, though as much as there can be was told behind it", KeepingEdgesTest::allAsWasKept);
+        DUE.sentence("19: what was told behind it is none, whatever is told now", KeepingEdgesTest::noneOfWhatWas);
         DUE.sentence("19: (that stays kept)", KeepingEdgesTest::staysKept);
         DUE.sentence("19: false: no such slot", KeepingEdgesTest::noSlotToGoBackTo);
         DUE.sentence("19: false: nothing is kept", KeepingEdgesTest::nothingIsKept);
@@ -125,6 +129,78 @@ final class KeepingEdgesTest {
         DUE.same("is closed", 1, x.count(4));
         DUE.same("there is no other", 1, x.count(3));
         DUE.none("none is open", x.close());
+    }
+
+    /** Tells a race of a number to an object to which nothing is told: two full ones, and one of which all is little. */
+    private static void tellRace(BunchTimes x, int race) {
+        if (race < 2) {
+            FullRace.tell(x, race);
+        } else {
+            Races.more(x, "team;rider 0 50;rider 0 16;stage trial 30;come 1 9000;close;rider 0 33;stage peaks 40;");
+        }
+    }
+
+    /** One race is told, and kept; then, from none told on, another; then it goes back to the first. */
+    private static void tellAndGoBack(BunchTimes x, int race, int other) {
+        x.keep(1);
+        tellRace(x, race);
+        x.keep(0);
+        x.back(1);
+        tellRace(x, other);
+        x.back(0);
+    }
+
+    /** Another race is told whole; then, from none told on, the one. */
+    private static void tellAnew(BunchTimes x, int race, int other) {
+        x.keep(1);
+        tellRace(x, other);
+        FullRace.reveal(x);
+        x.back(1);
+        tellRace(x, race);
+    }
+
+    private static BunchTimes raced(Consumer<BunchTimes> telling, boolean reveals) {
+        BunchTimes x = new BunchTimes();
+        telling.accept(x);
+        if (reveals) {
+            FullRace.reveal(x);
+        }
+        return x;
+    }
+
+    /** That a race is as one to which nothing else was told; once as it is, and once with its open stage closed. */
+    private static void asToldAlone(int race, int other, Consumer<BunchTimes> telling) {
+        for (boolean reveals : new boolean[] {false, true}) {
+            DUE.sameRace("race " + race + " behind " + other + ", revealed: " + reveals, () -> raced(x -> tellRace(x, race), reveals),
+                () -> raced(telling, reveals));
+        }
+    }
+
+    private static final int[][] RACES = {{0, 1}, {1, 0}, {0, 2}, {2, 0}, {2, 1}};
+
+    private static void allAsWasKept() {
+        for (int[] r : RACES) {
+            asToldAlone(r[0], r[1], x -> tellAndGoBack(x, r[0], r[1]));
+        }
+    }
+
+    private static void noneOfWhatWas() {
+        for (int[] r : RACES) {
+            asToldAlone(r[0], r[1], x -> tellAnew(x, r[0], r[1]));
+        }
+        BunchTimes x = Races.with(2);
+        x.keep(0);
+        Races.more(x, "stage flat 100 at 10 sprint;over 0 1 0;fall 1 0 with 0;jury 1 9;grace 1;come 0 100000 1 100100;");
+        x.back(0);
+        x.stage(0, 100);
+        DUE.same("marks", 0, x.count(5));
+        DUE.same("finishes", 0, x.count(6));
+        x.mark(20, 0);
+        DUE.same("over it", 1, x.over(0, 0));
+        DUE.yes("grace", x.grace(1));
+        DUE.same("jury", 1, x.jury(1, 1));
+        DUE.yes("mishap", x.fall(1, 5, 0));
+        DUE.yes("finish", x.finish(1, 100100));
     }
 
     private static void staysKept() {

@@ -157,8 +157,7 @@ final class KeepingTest {
         DUE.none("behind the last mark", x.mark(41, 0));
         tell(x, END);
         DUE.sameText("the one behind the other", one, Answers.asked(x));
-        x.back(0);
-        tell(x, OTHER);
+        x = of(OTHER);
         Due.text(x, "stage hills 30 at 2 sprint;come 4 8000 6 9000 5 9900;grace 4;jury 5 9;close;oops");
         tell(x, OTHER_OPEN, "close;");
         DUE.sameText("behind a text that failed", other, Answers.asked(x));
@@ -176,5 +175,4 @@ final class KeepingTest {
             DUE.yes("told: " + text, Due.text(x, text) < 0);
         }
     }
-
 }

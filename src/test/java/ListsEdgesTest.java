@@ -192,6 +192,7 @@ final class ListsEdgesTest {
         x.close();
         list("sixteen", x, 0, 15, 14, 13, 12, 11, 10, 9, 8, 7, 6, 5, 4, 3, 2, 1, 0);
         list("one", trials(row(10000)), 0, 0);
+        DUE.same("age 50 is in it", 3, oldAndYoung().list(0, 0));
         // Places do not count ahead of totals.
         x = Races.told("team;rider 0 30;rider 0 30;stage trial 100;jury 0 11;come 0 100000 1 100100;close;");
         list("a worse place, a second less", x, 0, 1, 0);
@@ -211,6 +212,39 @@ final class ListsEdgesTest {
         list("of like ones as in general", x, 1, 1, 0);
         x = trials(row(10000, 10010), row(10010, 10000));
         list("of like ones as in general, by number", x, 1, 0, 1);
+        list("age 50 is in it", oldAndYoung(), 1, 3, 2, 1, 0);
+        // Of the order 40 32 24 16 8 for the last five numbers; of the sprints 10 7 4 2 for each four.
+        list("sixteen", sixteenWorthy(), 1, 15, 14, 13, 12, 11, 7, 3, 10, 6, 2, 9, 5, 1, 8, 4, 0);
+    }
+
+    /** Ages 16, 25, 26, 50, who come one behind the other, the oldest first; so they come over a climb. */
+    private static BunchTimes oldAndYoung() {
+        return Races.told("team;rider 0 16;rider 0 25;rider 0 26;rider 0 50;stage trial 100 at 10 climb 1;"
+            + "come 3 100000 2 100010 1 100020 0 100030;over 0 3 2 1 0;close;");
+    }
+
+    /** Sixteen young ones, the last number first in each stage; four a stage come over a sprint and a climb. */
+    private static BunchTimes sixteenWorthy() {
+        BunchTimes x = new BunchTimes();
+        x.team();
+        for (int r = 0; r < 16; r++) {
+            x.rider(0, 25);
+        }
+        for (int s = 0; s < 4; s++) {
+            x.stage(3, 100);
+            x.mark(10, 0);
+            x.mark(20, 1);
+            Races.more(x, "over 0 " + fourOf(s) + ";over 1 " + fourOf(s) + ";");
+            for (int r = 0; r < 16; r++) {
+                x.finish(r, 100000 + 100 * (15 - r));
+            }
+            x.close();
+        }
+        return x;
+    }
+
+    private static String fourOf(int group) {
+        return (4 * group + 3) + " " + (4 * group + 2) + " " + (4 * group + 1) + " " + 4 * group;
     }
 
     private static void dots() {
@@ -222,6 +256,8 @@ final class ListsEdgesTest {
         list("nobody has any", trials(row(10000, 10001)), 2);
         x = Races.told("team;rider 0 30;stage trial 100 at 10 climb 4;come 0 100000;over 0 0;close;");
         list("one of one", x, 2, 0);
+        list("age 50 is in it", oldAndYoung(), 2, 3, 2, 1, 0);
+        list("sixteen", sixteenWorthy(), 2, 15, 11, 7, 3, 14, 10, 6, 2, 13, 9, 5, 1, 12, 8, 4, 0);
     }
 
     private static void young() {
@@ -231,6 +267,8 @@ final class ListsEdgesTest {
         list("nobody", trials(row(10000)), 3);
         x = Races.told("team;rider 0 25;rider 0 25;stage trial 100;come 0 100001 1 100000;close;");
         list("as in general", x, 3, 1, 0);
+        list("16 and 25", oldAndYoung(), 3, 1, 0);
+        list("sixteen", sixteenWorthy(), 3, 15, 14, 13, 12, 11, 10, 9, 8, 7, 6, 5, 4, 3, 2, 1, 0);
     }
 
     // ---- teams
@@ -268,6 +306,15 @@ final class ListsEdgesTest {
         DUE.same("of sixteen", 30003, x.total(0, true));
         x = Races.closed(0, 100, 100000, 100010, 100020);
         DUE.same("bonus does not count", 30003, x.total(0, true));
+        x = trials(row(10000, 10000, 10000), row(10001, 10001, 10001), row(10002, 10002, 10002), row(10003, 10003, 10003),
+            row(10004, 10004, 10004), row(10005, 10005, 10005), row(10006, 10006, 10006), row(10007, 10007, 10007));
+        DUE.same("of eight stages", 3 * (80000 + 28), x.total(0, true));
+        x = Races.told("team;rider 0 30;rider 0 30;rider 0 30;stage trial 100;come 0 100000 1 100000 2 100000;close;");
+        x.keep(0);
+        Races.more(x, "stage trial 100;come 0 100000 1 100000 2 100000;close;");
+        x.back(0);
+        Races.more(x, "stage trial 100;come 0 100000 1 100000 2 100000;");
+        DUE.same("not of an open one", 30000, x.total(0, true));
     }
 
     private static void fewerThanThree() {
@@ -299,6 +346,10 @@ final class ListsEdgesTest {
         x = teams("rider 2 30;rider 2 30;rider 2 30;rider 1 30;rider 1 30;rider 1 30;rider 0 30;rider 0 30;rider 0 30;",
             "come 0 100000 1 100000 2 100000 3 100000 4 100000 5 100000 6 100000 7 100000 8 100010;");
         list("a second more", x, 4, 1, 2, 0);
+        // Rider 0 has more places than rider 1, but teams have none.
+        x = teams("rider 0 30;rider 0 30;rider 0 30;rider 1 30;rider 1 30;rider 1 30;", "come 0 100005 1 100000 2 100001 3 100002 4 100003 5 100004;");
+        list("general", x, 0, 1, 2, 3, 4, 5, 0);
+        list("alike, asked behind general", x, 4, 0, 1);
     }
 
     // ---- 28, 29
@@ -459,6 +510,8 @@ final class ListsEdgesTest {
         DUE.same("like totals, fewer places", 0, x.needs(1));
         x = Races.told("team;rider 0 30;stage flat 1;come 0 9;close;rider 0 30;");
         DUE.same("below 0: 0 against -10", 11, x.needs(1));
+        DUE.same("age 50", 0, oldAndYoung().needs(3));
+        DUE.same("behind one of age 50", 4, oldAndYoung().needs(0));
     }
 
     private static void needsOfOneOut() {
@@ -495,6 +548,8 @@ final class ListsEdgesTest {
         DUE.same("without the first", 1, x.without(0));
         DUE.same("without the second", 0, x.without(1));
         DUE.same("all stays", 0, x.list(0, 0));
+        x = Races.told("team;rider 0 20;rider 0 50;stage trial 100;come 0 100000 1 100010;close;stage trial 100;come 0 100010 1 100000;close;");
+        DUE.same("age 50", 1, x.without(0));
         DUE.same("without the only one: the number", 0, trials(row(10020, 10000)).without(0));
         x = Races.told("team;rider 0 30;stage trial 100;come 0 100000;close;rider 0 30;stage trial 100;come 0 100010 1 100000;close;");
         DUE.same("the limit of one told behind it neither", 1, x.without(0));

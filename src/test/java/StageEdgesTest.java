@@ -1,3 +1,5 @@
+import java.util.Arrays;
+
 /** Promises 22 to 27 at their edges, sentence by sentence, and the terms on which they rest: order, bunches, times, limits. */
 final class StageEdgesTest {
     private static final Due DUE = new Due();
@@ -317,6 +319,14 @@ final class StageEdgesTest {
         DUE.same("by time, not raw", 0, x.told(0, 7));
         // A bunch that begins within the limit.
         DUE.same("by his bunch's first", 0, Races.closed(0, 100, 100000, 107005, 107014).told(0, 7));
+        for (int last = 0; last < 16; last += 5) {
+            int[] tenths = new int[16];
+            Arrays.fill(tenths, 100000);
+            tenths[last] = 107010;
+            x = Races.closed(0, 100, tenths);
+            DUE.same("one of sixteen, whoever he is: " + last, 1, x.told(0, 7));
+            DUE.same("he is out: " + last, 0, x.of(last, 2));
+        }
     }
 
     private static void withoutGrace() {
@@ -407,6 +417,20 @@ final class StageEdgesTest {
         x.fall(1, 1, 0);
         x.close();
         helped("one second", x, 1, 1);
+        x = Races.with(16);
+        x.stage(0, 100);
+        for (int r = 0; r < 16; r++) {
+            x.finish(r, 101500 - 100 * r);
+            x.fall(r, 0, r == 15 ? 0 : 15);
+        }
+        x.close();
+        helped("as many as there can be: 10 and 20 and so on to 150", x, 15, 1200);
+        x = Races.with(3);
+        x.stage(0, 100);
+        Races.come(x, 100100, 100000);
+        x.fall(0, 0, 1);
+        x.close();
+        helped("the last of the order, who has the first number", x, 1, 10);
     }
 
     private static void anotherTold() {
@@ -552,6 +576,11 @@ final class StageEdgesTest {
         }
         DUE.same("one alone", 1, Races.closed(0, 100, 100000).together(0));
         DUE.same("the widest of three", 51, Races.closed(0, 100, 100000, 100050, 100060).together(0));
+        int[] tenths = new int[16];
+        for (int r = 0; r < 16; r++) {
+            tenths[r] = 100000 + 10 * r + (r == 15 ? 5 : 0);
+        }
+        DUE.same("as many as there can be", 16, Races.closed(0, 100, tenths).together(0));
     }
 
     private static void noGapIsEnough() {

@@ -195,6 +195,24 @@ final class TapeEdgesTest {
             DUE.yes(faulty, Due.text(x, faulty) > 0);
             DUE.sameText("behind a part of " + faulty, Answers.revealed(faulty(Races.open(), x.fault())), Answers.revealed(x));
         }
+        for (int variant = 0; variant < 2; variant++) {
+            int v = variant;
+            DUE.sameRace("as much as there can be", () -> failedFull(false, v), () -> failedFull(true, v));
+        }
+    }
+
+    /** A race in which as much is told as there can be, and a text that tells more, closes the stage, and fails. */
+    private static BunchTimes failedFull(boolean fails, int variant) {
+        BunchTimes x = new BunchTimes();
+        FullRace.tell(x, variant);
+        if (fails) {
+            Due.text(x, "team;".repeat(2 * variant) + "come 0 140000 1 150000 3 150000;gap 99;zone 9;close;rider 0 20;?");
+            Due.text(x, "come 0 140000;close;stage trial 9 at 1 sprint;over 0 0;come 0 9000;close;close;");
+            Due.text(x, "quit 0;quit 1;quit 3;quit 5;come 6 150000;close;gap 0;");
+            Due.text(x, "");
+        }
+        FullRace.reveal(x);
+        return x;
     }
 
     /** The FAULT is what a failed text changes; here another text makes the same one. */

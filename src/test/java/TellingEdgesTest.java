@@ -170,6 +170,15 @@ final class TellingEdgesTest {
         x.finish(5, 90000);
         x.close();
         DUE.same("the stage is closed", 6, x.rider(0, 30));
+        x = Races.with(1);
+        x.stage(0, 100);
+        x.rider(0, 30);
+        x.rider(0, 30);
+        x.finish(0, 100000);
+        DUE.yes("who is told in the open stage counts from then on", x.finish(2, 100000));
+        DUE.same("without a finish he is out then", 1, x.close());
+        DUE.same("out", 0, x.of(1, 2));
+        DUE.same("in", 1, x.of(2, 2));
     }
 
     // ---- 8
