@@ -205,7 +205,7 @@ public final class BunchTimes {
         }
     }
 
-    // ---- a stage that is closed
+    // ---- a stage that is closed (NONE: there is none such)
 
     public int told(int stage, int what) {
         Stage s = race.closedStage(stage);
@@ -1374,7 +1374,7 @@ public final class BunchTimes {
             for (int n = 0; n < TAPE_BYTES && tape.takes("at"); n++) {
                 int km = tape.takeInt(leastKm, length - 1);
                 int how = takeHow(tape);
-                done &= race.addMark(km, how) != NONE;
+                done = race.addMark(km, how) != NONE && done;
                 leastKm = km + 1;
             }
             return done;
@@ -1405,7 +1405,7 @@ public final class BunchTimes {
             for (int n = 0; n < TAPE_BYTES && tape.hasInt(); n++) {
                 int rider = takeRider(race, tape);
                 int tenths = tape.takeInt(1, MOST_FINISH);
-                done &= race.addFinish(rider, tenths);
+                done = race.addFinish(rider, tenths) && done;
             }
             return done;
         }
@@ -1414,7 +1414,7 @@ public final class BunchTimes {
             int mark = tape.takeInt(0, race.latestMarks() - 1);
             boolean done = true;
             for (int n = 0; n < TAPE_BYTES && tape.hasInt(); n++) {
-                done &= race.addCrossing(mark, takeRider(race, tape)) != NONE;
+                done = race.addCrossing(mark, takeRider(race, tape)) != NONE && done;
             }
             return done;
         }
